@@ -801,7 +801,6 @@ public final class PascalMachine {
         private int top = 0;
         private int depth = 0;
         private int next = 0;
-        private boolean isRunning = false;
         final int[] values = new int[MAX_OUTPUT];
         int written = 0;
         int lost = 0;
@@ -811,7 +810,7 @@ public final class PascalMachine {
         /** A failure ends it by an exception that goes on to the caller of run. */
         void execute() {
             begin();
-            for (int i = 0; i < MAX_INSTRUCTIONS && isRunning && next < program.size; i++) {
+            for (int i = 0; i < MAX_INSTRUCTIONS && next < program.size; i++) {
                 int at = next;
                 next++;
                 perform(program.operations[at], program.firsts[at], program.seconds[at]);
@@ -822,7 +821,6 @@ public final class PascalMachine {
             next = program.start;
             top = 0;
             depth = 0;
-            isRunning = true;
             written = 0;
             lost = 0;
             steps = 0;
@@ -947,7 +945,7 @@ public final class PascalMachine {
 
         private void leave() {
             if (depth == 0) {
-                isRunning = false;
+                next = program.size;
             } else {
                 next = returns[depth];
                 depth--;

@@ -9,6 +9,7 @@ public final class CompileTest {
         aFaultLeavesTheProgram();
         aNewProgramTakesItsPlace();
         oneObjectCompilesAgainAndAgain();
+        nothingStaysOfAnEarlierText();
         Check.end();
     }
 
@@ -101,6 +102,28 @@ public final class CompileTest {
             machine.cut(1);
             Check.isThrown("compile of less " + i, IllegalArgumentException.class, () -> machine.compile());
             machine.append('.', 1);
+        }
+    }
+
+    private static void nothingStaysOfAnEarlierText() {
+        String references = "var a; proc p(@x,@y,@z); begin end; begin p(a,a,a) end.";
+        String faulty = "var a; proc p(@b); proc q(@c); proc r(@d); begin ? end; begin end; begin end; begin end.";
+        String sound = "proc p(n);proc q(m);proc r(k);begin write(n+10*m+100*k) end;begin r(m+1) end;begin q(n+1) end;"
+            + "begin p(1+0) end.";
+        PascalMachine machine = Check.compiled(references);
+        Check.answers("compiled twice", 5, () -> machine.compile());
+        for (int i = 0; i < 3; i++) {
+            Check.replace(machine, faulty);
+            Check.isThrown("compile of " + faulty, IllegalArgumentException.class, () -> machine.compile());
+            Check.replace(machine, sound);
+            Check.answers("compile of " + sound, 6, () -> machine.compile());
+            Check.answers("run of " + sound, 1, () -> machine.run());
+            Check.answers("output of " + sound, 321, () -> machine.output(0));
+        }
+        for (String text : new String[] {"begin a:=1 end.", "begin p(1) end.", "begin n:=1 end."}) {
+            Check.replace(machine, text);
+            Check.isThrown("compile of " + text, IllegalArgumentException.class, () -> machine.compile());
+            Check.answers("fault of " + text, 6, () -> machine.fault());
         }
     }
 }

@@ -3,6 +3,7 @@ public final class CutTest {
     public static void main(String[] args) {
         takesTheLastOnes();
         refusesWhatIsNotThere();
+        leavesNothingOfWhatItTook();
         leavesTheProgramAlone();
         Check.end();
     }
@@ -28,6 +29,20 @@ public final class CutTest {
         Check.answers("length", 5, () -> machine.count(4));
         Check.answers("cut 5", 0, () -> machine.cut(5));
         Check.isThrown("cut 1 of none", IllegalArgumentException.class, () -> machine.cut(1));
+    }
+
+    private static void leavesNothingOfWhatItTook() {
+        dueFaultOfLess("begin endx", 9);
+        dueFaultOfLess("begin write(1234567890", 21);
+        dueFaultOfLess("begin end.", 9);
+        dueFaultOfLess("var a; begin a:=", 13);
+    }
+
+    private static void dueFaultOfLess(String text, int fault) {
+        PascalMachine machine = Check.holding(text);
+        machine.cut(1);
+        Check.isThrown("compile of less than " + text, IllegalArgumentException.class, () -> machine.compile());
+        Check.answers("fault of less than " + text, fault, () -> machine.fault());
     }
 
     private static void leavesTheProgramAlone() {

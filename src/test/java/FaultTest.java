@@ -2,6 +2,8 @@
 public final class FaultTest {
     private static final String[] TOKENS = {
         "begin ^abcdefg:=1 end.",
+        "var ^abcdefg; begin end.",
+        "var ^a123456; begin end.",
         "begin write(^1234567890) end.",
         "begin write(^0000000001) end.",
         "^Begin end.",

@@ -14,6 +14,7 @@ public final class RunTest {
         orderOfFailures();
         deepestExpression();
         runsAreAlike();
+        failuresLeaveNothingBehind();
         Check.end();
     }
 
@@ -106,6 +107,7 @@ public final class RunTest {
         due("var a; proc a1; var a; proc b; var a; proc c; begin a:=3 end; begin c; write(a) end; begin b; write(a) end;"
             + "begin a1; write(a) end.", 3, 0, 0);
         due("var a; proc p; proc q; begin write(a) end; begin a:=4; q end; begin p end.", 4);
+        due("var a,b,c,d,e,f,g,h,i,j,k,l; proc p; begin end; begin a:=1; l:=5; p; write(a); write(k); write(l) end.", 1, 0, 5);
     }
 
     private static void parameters() {
@@ -196,5 +198,18 @@ public final class RunTest {
             dueValues(machine, "failing run " + i, 1, 2, 3, 4, 5, 6, 7, 8, 9, 10);
             Check.equal("steps of failing run " + i, machine.count(2), 21);
         }
+    }
+
+    private static void failuresLeaveNothingBehind() {
+        String deep = "1+1*(".repeat(8) + "1+1*1" + ")".repeat(8);
+        PascalMachine machine = Check.compiled("proc p(x,y); begin write(1+2*(3+4/(x-y))) end; begin p(1,1) end.");
+        for (int i = 0; i < 30; i++) {
+            Check.isThrown("failing run " + i, ArithmeticException.class, () -> machine.run());
+        }
+        Check.replace(machine, "var a; begin write(a); write(" + deep + ") end.");
+        machine.compile();
+        Check.answers("run after failures", 2, () -> machine.run());
+        dueValues(machine, "run after failures", 0, 10);
+        Check.equal("calls after failures", machine.count(3), 0);
     }
 }
