@@ -34,6 +34,34 @@ final class Check {
         }
     }
 
+    /** A refused call throws what is due, and leaves all that can be asked as it was. */
+    static void refused(String what, Class<? extends RuntimeException> due, PascalMachine machine, Call call) {
+        String before = state(machine);
+        isThrown(what, due, call);
+        sameState("state after " + what, machine, before);
+    }
+
+    static void sameState(String what, PascalMachine machine, String due) {
+        String state = state(machine);
+        if (!state.equals(due)) {
+            report(what, state, due);
+        }
+    }
+
+    /** All that can be asked of a machine without changing it: the fault, the counts and the output. */
+    static String state(PascalMachine machine) {
+        StringBuilder state = new StringBuilder("fault " + machine.fault() + ", counts");
+        for (int what = 0; what <= 4; what++) {
+            state.append(' ').append(machine.count(what));
+        }
+        state.append(", output");
+        int written = machine.count(0);
+        for (int index = 0; index < written; index++) {
+            state.append(' ').append(machine.output(index));
+        }
+        return state.toString();
+    }
+
     /** Puts a text behind the machine's text, eight characters a call. */
     static void put(PascalMachine machine, String text) {
         for (int start = 0; start < text.length(); start += 8) {

@@ -5,81 +5,92 @@ public final class CompileTest {
     public static void main(String[] args) {
         answersHowManyNames();
         takesWhatTheGrammarTells();
-        takesTheMostThatMayBe();
+        aFaultLeavesNoProgramWhereNoneWas();
         aFaultLeavesTheProgram();
+        aFaultLeavesTheText();
+        leavesTheLastRunAlone();
         aNewProgramTakesItsPlace();
         oneObjectCompilesAgainAndAgain();
         nothingStaysOfAnEarlierText();
         Check.end();
     }
 
-    private static void due(int names, String text) {
-        PascalMachine machine = Check.holding(text);
-        Check.answers(text, names, () -> machine.compile());
-        Check.answers("fault of " + text, -1, () -> machine.fault());
-    }
-
     private static void answersHowManyNames() {
-        due(0, "begin end.");
-        due(1, "var a; begin end.");
-        due(3, "var a,b,c; begin end.");
-        due(1, "proc p; begin end; begin end.");
-        due(3, "proc p(x,@y); begin end; begin end.");
-        due(7, "var a; proc p(a); var b; proc q; begin end; begin end; proc q; var p; begin end; begin end.");
+        Due.sound(0, "begin end.");
+        Due.sound(1, "var a; begin end.");
+        Due.sound(3, "var a,b,c; begin end.");
+        Due.sound(1, "proc p; begin end; begin end.");
+        Due.sound(3, "proc p(x,@y); begin end; begin end.");
+        Due.sound(18, "var a,b,c,d,e,f; proc p(g,@h,i); var j,k,l; begin end; proc q;begin end;proc r;begin end;"
+            + "proc s;begin end;proc t;begin end;proc u;begin end;begin end.");
+        Due.sound(7, "var a; proc p(a); var b; proc q; begin end; begin end; proc q; var p; begin end; begin end.");
     }
 
     private static void takesWhatTheGrammarTells() {
-        due(0, "  begin   end  .  ");
-        due(0, "begin;;;end.");
-        due(0, "begin begin end; begin ; end end.");
-        due(0, "begin if 1=1 then end.");
-        due(0, "begin if 1<1 then else end.");
-        due(0, "begin if 1>1 then if 1=2 then else else end.");
-        due(0, "begin while 1=0 do end.");
-        due(0, "begin write(-1+2-3*4/5%6) end.");
-        due(0, "begin write(-(-(-1))) end.");
-        due(0, "begin write(1)end.");
-        due(1, "var a;begin a:=1;if a=1then write(2)else a:=3end.");
-        due(1, "var end1; begin end1:=1 end.");
-        due(2, "proc p(p); begin p:=1 end; begin p(1) end.");
-        due(3, "var a; proc p(a); begin a:=1 end; begin p(a) end.");
-        due(2, "proc p; begin p end; proc q; begin p; q end; begin q; p end.");
-        due(3, "proc p; var p; begin p:=1 end; proc q; begin p end; begin p; q end.");
-        due(5, "var a; proc p(@x,y); begin end; proc q; begin p(a,a+1) end; begin q; p(a,(a)) end.");
+        Due.sound(0, "  begin   end  .  ");
+        Due.sound(0, "begin;;;end.");
+        Due.sound(0, "begin begin end; begin ; end end.");
+        Due.sound(0, "begin if 1=1 then end.");
+        Due.sound(0, "begin if 1<1 then else end.");
+        Due.sound(0, "begin if 1>1 then if 1=2 then else else end.");
+        Due.sound(0, "begin while 1=0 do end.");
+        Due.sound(0, "begin write(-1+2-3*4/5%6) end.");
+        Due.sound(0, "begin write(-(-(-1))) end.");
+        Due.sound(0, "begin write(1)end.");
+        Due.sound(1, "var a;begin a:=1;if a=1then write(2)else a:=3end.");
+        Due.sound(1, "var end1; begin end1:=1 end.");
+        Due.sound(2, "proc p(p); begin p:=1 end; begin p(1) end.");
+        Due.sound(3, "var a; proc p(a); begin a:=1 end; begin p(a) end.");
+        Due.sound(2, "proc p; begin p end; proc q; begin p; q end; begin q; p end.");
+        Due.sound(3, "proc p; var p; begin p:=1 end; proc q; begin p end; begin p; q end.");
+        Due.sound(5, "var a; proc p(@x,y); begin end; proc q; begin p(a,a+1) end; begin q; p(a,(a)) end.");
     }
 
-    private static void takesTheMostThatMayBe() {
-        due(1, "var abcdef; begin end.");
-        due(1, "var a12345; begin end.");
-        due(0, "begin write(999999999) end.");
-        due(0, "begin write(000000001) end.");
-        due(12, "var a,b,c,d,e,f,g,h,i,j,k,l; begin end.");
-        due(13, "var a,b,c,d,e,f; proc p(g,@h,i); var j,k,l; begin end; begin end.");
-        due(6, "proc a;begin end;proc b;begin end;proc c;begin end;proc d;begin end;proc e;begin end;proc f;begin end;"
-            + "begin end.");
-        due(3, "proc a;proc b;proc c;begin end;begin end;begin end;begin end.");
-        due(4, "proc p(a,b,c); begin end; begin p(1,2,3) end.");
-        due(0, "begin write(((((((((1))))))))+((((((((2))))))))) end.");
-        due(0, "begin " + "begin ".repeat(8) + "end ".repeat(8) + "end.");
-        due(0, "begin " + "if 1=1 then ".repeat(8) + "write(1) end.");
-        due(0, "begin " + "while 1=0 do ".repeat(8) + "write(1); while 1=0 do if 1=1 then begin end end.");
-        due(0, "begin " + ";".repeat(147) + "end.");
-        due(0, "begin" + " ".repeat(291) + "end.");
+    private static void aFaultLeavesNoProgramWhereNoneWas() {
+        PascalMachine machine = Check.holding("begin write(1) end");
+        Check.isThrown("compile with a fault", IllegalArgumentException.class, () -> machine.compile());
+        Check.refused("run without a program", NoSuchElementException.class, machine, () -> machine.run());
+        Check.put(machine, ".");
+        Check.refused("run before the next compile", NoSuchElementException.class, machine, () -> machine.run());
+        Check.answers("compile without a fault", 0, () -> machine.compile());
+        Check.answers("run", 1, () -> machine.run());
     }
 
     private static void aFaultLeavesTheProgram() {
-        PascalMachine machine = Check.holding("begin write(1) end");
-        Check.isThrown("compile with a fault", IllegalArgumentException.class, () -> machine.compile());
-        Check.isThrown("run without a program", NoSuchElementException.class, () -> machine.run());
-        Check.put(machine, ".");
-        Check.answers("compile without", 0, () -> machine.compile());
-        Check.answers("run", 1, () -> machine.run());
-        for (String text : new String[] {"", "begin write(2) end", "var a; begin a:=5; write(3); write(a); b end."}) {
+        PascalMachine machine = Check.compiled("var a; proc p(x,@y); begin y:=x+1 end; begin p(4,a); write(a) end.");
+        for (String text : new String[] {"", "?", "begin write(2) end", "begin write(2) end. x",
+            "var a; begin a:=5; write(3); write(a); b end.", "proc p(@x,y,z); begin write(9) end; begin p(1,2,3) end.",
+            "proc q; begin end; proc p(@x); begin write(8) end; begin write(6); ^"}) {
             Check.replace(machine, text);
+            String counts = Check.state(machine).replaceFirst("fault -?[0-9]+", "");
             Check.isThrown("compile of " + text, IllegalArgumentException.class, () -> machine.compile());
+            Check.sameState("counts after " + text, machine, "fault " + machine.fault() + counts);
             Check.answers("run after " + text, 1, () -> machine.run());
-            Check.answers("output after " + text, 1, () -> machine.output(0));
+            Check.answers("output after " + text, 5, () -> machine.output(0));
+            Check.answers("steps after " + text, 3, () -> machine.count(2));
         }
+    }
+
+    private static void aFaultLeavesTheText() {
+        PascalMachine machine = Check.holding("var a; begin a:=6; write(a+?");
+        Check.isThrown("compile with a fault", IllegalArgumentException.class, () -> machine.compile());
+        Check.isThrown("compile again", IllegalArgumentException.class, () -> machine.compile());
+        Check.answers("fault", 27, () -> machine.fault());
+        Check.answers("cut", 27, () -> machine.cut(1));
+        Check.put(machine, "1) end.");
+        Check.answers("compile mended", 1, () -> machine.compile());
+        Check.answers("length", 34, () -> machine.count(4));
+        Check.answers("compile the same again", 1, () -> machine.compile());
+        Check.answers("run", 1, () -> machine.run());
+        Check.answers("output", 7, () -> machine.output(0));
+    }
+
+    private static void leavesTheLastRunAlone() {
+        PascalMachine machine = Check.compiled("proc p; begin write(4) end; begin p; write(5) end.");
+        machine.run();
+        String state = Check.state(machine);
+        Check.answers("compile again", 1, () -> machine.compile());
+        Check.sameState("state after a compile", machine, state);
     }
 
     private static void aNewProgramTakesItsPlace() {

@@ -4,6 +4,8 @@ public final class CountTest {
         countsOfARun();
         countsTheLost();
         countsCalls();
+        countsTheText();
+        countsOfAFailure();
         staysUntilTheNextRun();
         refusesOtherNumbers();
         Check.end();
@@ -26,9 +28,13 @@ public final class CountTest {
     }
 
     private static void countsTheLost() {
-        PascalMachine machine = Check.compiled("var i; begin while i<35 do begin write(i); i:=i+1 end end.");
-        machine.run();
-        due(machine, "35 written", 32, 3, 106, 0);
+        PascalMachine machine = new PascalMachine();
+        for (int number : new int[] {31, 32, 33, 35, 40, 32}) {
+            Check.replace(machine, "var i; begin while i<" + number + " do begin write(i); i:=i+1 end end.");
+            machine.compile();
+            machine.run();
+            due(machine, number + " written", Math.min(32, number), Math.max(0, number - 32), 3 * number + 1, 0);
+        }
         Check.replace(machine, "begin write(1) end.");
         machine.compile();
         machine.run();
@@ -40,6 +46,44 @@ public final class CountTest {
             "proc p; begin end; proc q; begin p; p end; proc r; begin q; p end; begin p; r; q; p end.");
         machine.run();
         due(machine, "calls", 0, 0, 10, 3);
+        Check.replace(machine, "proc p; begin end; begin p; p; p end.");
+        machine.compile();
+        machine.run();
+        due(machine, "calls behind one another", 0, 0, 3, 1);
+        Check.replace(machine, "proc p; begin p end; begin if 1=2 then p end.");
+        machine.compile();
+        machine.run();
+        due(machine, "no call", 0, 0, 1, 0);
+    }
+
+    private static void countsTheText() {
+        PascalMachine machine = new PascalMachine();
+        for (int length = 1; length <= 300; length++) {
+            machine.append('a', 1);
+            if (length == 1 || length == 150 || length >= 299) {
+                due(machine, "length " + length, 0, 0, 0, 0, length);
+            }
+        }
+        Check.isThrown("append", IllegalStateException.class, () -> machine.append('a', 1));
+        due(machine, "after a refused append", 0, 0, 0, 0, 300);
+        machine.cut(299);
+        due(machine, "after a cut", 0, 0, 0, 0, 1);
+        machine.cut(1);
+        due(machine, "after the last cut", 0, 0, 0, 0, 0);
+    }
+
+    private static void countsOfAFailure() {
+        PascalMachine machine = Check.compiled("proc p; begin while 1=1 do write(1) end; begin p end.");
+        Check.isThrown("run without end", IllegalStateException.class, () -> machine.run());
+        due(machine, "after a run without end", 32, 167, 400, 1, 53);
+        Check.replace(machine, "proc p; begin write(1); write(2); p end; begin p end.");
+        machine.compile();
+        Check.isThrown("run too deep", IndexOutOfBoundsException.class, () -> machine.run());
+        due(machine, "after a run too deep", 20, 0, 31, 10, 53);
+        Check.replace(machine, "begin write(0/0) end.");
+        machine.compile();
+        Check.isThrown("divisor 0", ArithmeticException.class, () -> machine.run());
+        due(machine, "after a divisor 0", 0, 0, 1, 0, 21);
     }
 
     private static void staysUntilTheNextRun() {
@@ -58,9 +102,12 @@ public final class CountTest {
     }
 
     private static void refusesOtherNumbers() {
-        PascalMachine machine = Check.compiled("begin end.");
-        for (int what : new int[] {5, -1, 6, Integer.MAX_VALUE, Integer.MIN_VALUE}) {
-            Check.isThrown("count " + what, IllegalArgumentException.class, () -> machine.count(what));
+        for (int what : new int[] {5, -1, 6, -2, 256, 260, Integer.MAX_VALUE, Integer.MIN_VALUE}) {
+            PascalMachine machine = Check.compiled("proc p; begin write(1) end; begin p end.");
+            Check.refused("count " + what + " before a run", IllegalArgumentException.class, machine,
+                () -> machine.count(what));
+            machine.run();
+            Check.refused("count " + what, IllegalArgumentException.class, machine, () -> machine.count(what));
         }
     }
 }

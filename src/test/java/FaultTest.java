@@ -1,23 +1,5 @@
-/** Promise 5: fault. In a text here, ^ stands where the fault is due, and is taken out. */
+/** Promise 5: fault, and the grammar that tells where it is. In a text here, ^ stands where the fault is due. */
 public final class FaultTest {
-    private static final String[] TOKENS = {
-        "begin ^abcdefg:=1 end.",
-        "var ^abcdefg; begin end.",
-        "var ^a123456; begin end.",
-        "begin write(^1234567890) end.",
-        "begin write(^0000000001) end.",
-        "^Begin end.",
-        "begin write(1^:2) end.",
-        "begin write(1^?) end.",
-        "begin^:",
-        "begin ^_ end.",
-        "var ^A; begin end.",
-        "var a^[; begin end.",
-        "begin end.^#",
-        "begin end. ^abcdefg",
-        "^beginend end.",
-    };
-
     private static final String[] GRAMMAR = {
         "^end.",
         "^; begin end.",
@@ -84,106 +66,6 @@ public final class FaultTest {
         "proc p(x); begin end; begin p(1) ^(2) end.",
     };
 
-    private static final String[] NAMES = {
-        "var a,^a; begin end.",
-        "proc p(x,^x); begin end; begin end.",
-        "proc p(x,@^x); begin end; begin end.",
-        "proc p(x); var ^x; begin end; begin end.",
-        "proc p(x); proc ^x; begin end; begin end; begin end.",
-        "var p; proc ^p; begin end; begin end.",
-        "proc p; begin end; proc ^p; begin end; begin end.",
-        "begin ^x:=1 end.",
-        "begin ^x end.",
-        "begin ^x(1) end.",
-        "begin ^x",
-        "begin ^x ?",
-        "begin write(^x) end.",
-        "begin write(1+^x+y) end.",
-        "var a; begin a:=^b end.",
-        "proc p; var a; begin end; begin ^a:=1 end.",
-        "proc p(a); begin end; begin ^a:=1 end.",
-        "proc p; proc q; begin end; begin end; begin ^q end.",
-        "proc p; begin ^q end; proc q; begin end; begin end.",
-        "proc p; begin end; begin write(^p) end.",
-        "proc p; begin end; begin if ^p=1 then end.",
-        "proc p(x); begin end; begin p(^p) end.",
-        "proc p; begin end; begin ^p:=1 end.",
-        "proc p(x); begin end; begin ^p:=1 end.",
-        "var a; begin ^a end.",
-        "var a; begin ^a; end.",
-        "var a; begin ^a(1) end.",
-        "var a; begin ^a=1 end.",
-        "var a; begin ^a",
-        "var a; begin ^a  ",
-        "var a; begin ^a ? end.",
-        "var a; begin ^a : =1 end.",
-        "var a; begin ^a abcdefg",
-        "proc p(a); begin ^a end; begin end.",
-        "proc p(@a); begin ^a end; begin end.",
-        "proc p; var p; begin ^p end; begin end.",
-        "var a; proc p; proc a; begin end; begin ^a:=1 end; begin end.",
-    };
-
-    private static final String[] ARGUMENTS = {
-        "proc p(x); begin end; begin ^p end.",
-        "proc p(x); begin end; begin ^p",
-        "proc p(x); begin end; begin ^p ?",
-        "proc p(x); begin end; begin ^p(1,2) end.",
-        "proc p(x); begin end; begin ^p(1,2) ?",
-        "proc p(x); begin end; begin p(1,2 ^? end.",
-        "proc p(x); begin end; begin p(1,^y) end.",
-        "proc p; begin end; begin ^p(1) end.",
-        "proc p; begin end; begin p(1^",
-        "proc p(x,y,z); begin end; begin ^p(1,2) end.",
-        "proc p(x,y,z); begin end; begin ^p(1,2,3,4) end.",
-        "proc p(x); begin ^p end; begin end.",
-        "proc p(@x); begin end; begin p(^1) end.",
-        "proc p(@x); begin end; begin p(^1",
-        "proc p(@x); begin end; begin p(^1 2) end.",
-        "proc p(@x); begin end; begin p(^-1) end.",
-        "var a; proc p(@x); begin end; begin p(^a+1) end.",
-        "var a; proc p(@x); begin end; begin p(^a*a) end.",
-        "var a; proc p(@x); begin end; begin p(^(a)) end.",
-        "var a; proc p(@x); begin end; begin p(^-a) end.",
-        "var a; proc p(@x); begin end; begin p(a ^a) end.",
-        "var a; proc p(@x); begin end; begin p(a+^b) end.",
-        "var a; proc p(@x); begin end; begin p(^a+1,2) end.",
-        "var a; proc p(@x); begin end; begin ^p(a,2) end.",
-        "var a; proc p(@x); begin end; begin p(a^",
-        "var a; proc p(@x); begin end; begin p(^b) end.",
-        "var a; proc p(@x); begin end; begin p(^p) end.",
-        "var a; proc p(x,@y); begin end; begin p(1,^2) end.",
-        "var a; proc p(x,@y); begin end; begin p((a),^(a)) end.",
-        "var a; proc p(x,y,@z); begin end; begin p(1,2,^a/1) end.",
-        "var a; proc p(@x,y); begin end; begin ^p(a) end.",
-    };
-
-    private static final String[] LIMITS = {
-        "var a,b,c,d,e,f,g,h,i,j,k,l,^m; begin end.",
-        "var a,b,c,d,e,f,g,h,i,j,k; proc p(l,^m); begin end; begin end.",
-        "var a,b,c,d,e,f,g,h,i,j,k; proc p(l); begin end; proc q; var ^m; begin end; begin end.",
-        "proc a;begin end;proc b;begin end;proc c;begin end;proc d;begin end;proc e;begin end;proc f;begin end;"
-            + "proc ^g;begin end;begin end.",
-        "proc a;proc b;proc c;^proc d;begin end;begin end;begin end;begin end;begin end.",
-        "proc a;proc b;proc c;begin end;proc d;^proc e;",
-        "proc p(a,b,c,^d); begin end; begin end.",
-        "proc p(a,b,c,@^d); begin end; begin end.",
-        "proc p(a,b,c,^1); begin end; begin end.",
-        "begin write(((((((((^(1)))))))))) end.",
-        "begin write(1+((((((((1+^(1)))))))))) end.",
-        "begin " + "begin ".repeat(8) + "^begin " + "end ".repeat(9) + "end.",
-        "begin " + "begin ".repeat(8) + "^if 1=1 then " + "end ".repeat(8) + "end.",
-        "begin " + "begin ".repeat(8) + "^while 1=0 do " + "end ".repeat(8) + "end.",
-        "begin " + "if 1=1 then ".repeat(8) + "^if 1=1 then end.",
-        "begin " + "if 1=1 then else ".repeat(8) + "^begin end end.",
-        "begin " + "while 1=0 do ".repeat(8) + "^while 1=0 do end.",
-        "begin " + ";".repeat(148) + "end^.",
-        "begin " + ";".repeat(149) + "^end.",
-        "begin " + ";".repeat(149) + "^?",
-        "begin " + ";".repeat(149) + "^",
-        "^" + ";".repeat(200),
-    };
-
     private static final String[] LACKING = {
         "^",
         "^   ",
@@ -202,23 +84,181 @@ public final class FaultTest {
         "begin if 1=1^",
         "begin if 1=1 then^",
         "var a; begin a:=^ ",
+        "var a,^",
+        "proc^ ",
+        "proc p^ ",
+        "proc p(^",
+        "proc p(x^ ",
+        "proc p(x)^ ",
+        "proc p;^ ",
+        "proc p; begin end;^ ",
+        "begin;^ ",
+        "begin begin end^ ",
+        "begin write(^ ",
+        "begin write(1)^ ",
+        "begin write(-^ ",
+        "begin write(1+^ ",
+        "begin write(1*^ ",
+        "begin write((1)^ ",
+        "begin if^ ",
+        "begin if 1^ ",
+        "begin if 1=^ ",
+        "begin if 1=1 then else^ ",
+        "begin while 1=1 do^ ",
+        "proc p; begin end; begin p^ ",
+        "proc p; begin end; begin p(^ ",
+        "proc p(x); begin end; begin p(1^ ",
+        "proc p(x); begin end; begin p(1)^ ",
+        "proc p(x,y); begin end; begin p(1,^ ",
     };
 
+    private static final String[] FIRST_OF_TWO = {
+        "begin ^1 ? end.",
+        "begin ^x abcdefg",
+        "begin ^x:=y end.",
+        "begin write(^x+1234567890) end.",
+        "var a,^a,A; begin end.",
+        "^end ?",
+        "begin end ^; ?",
+        "begin ^) " + ";".repeat(200),
+        "begin write(^x" + ")".repeat(200),
+        "proc p(x); begin end; begin ^p(1,2) x end.",
+        "proc p(x); begin end; begin ^p(1,2):=1 end.",
+        "proc p(x); begin end; begin p(1,^y) end.",
+        "proc p(x); begin end; begin p(1,2 ^? end.",
+        "proc p(x); begin end; begin p(1,2,^) end.",
+        "var a; proc p(@x); begin end; begin p(^a+1,?) end.",
+        "var a; proc p(@x); begin end; begin p(^a+1,2) end.",
+        "var a; proc p(@x); begin end; begin p(a+^b) end.",
+        "var a; proc p(@x,y); begin end; begin p(^1) end.",
+        "var a; proc p(x,@y); begin end; begin p(^b,1) end.",
+    };
+
+    /** A token of each kind, in its order of the terms. */
+    private static final String[] TOKENS = {
+        "a", "p", "b", "1", ":=", ";", ",", "(", ")", ".", "=", "<", ">", "+", "-", "*", "/", "%", "@",
+        "var", "proc", "begin", "end", "if", "then", "else", "while", "do", "write"};
+
+    /** What is no token, or is not there. */
+    private static final String[] NO_TOKENS = {"", "  ", "?", ":", "abcdefg", "1234567890", "A"};
+
     public static void main(String[] args) {
-        for (String[] texts : new String[][] {TOKENS, GRAMMAR, NAMES, ARGUMENTS, LIMITS, LACKING}) {
+        for (String[] texts : new String[][] {GRAMMAR, LACKING, FIRST_OF_TWO}) {
             for (String text : texts) {
-                due(text);
+                Due.fault(text);
             }
         }
+        aVariableBeginsAnAssignmentAlone();
+        aProcedureBeginsACallAlone();
+        aCallHasAsManyArgumentsAsParameters();
+        anArgumentByReferenceIsJustAName();
+        placesAreFrom0To300();
         isOfTheLastCompile();
+        isLeftAloneByOtherCalls();
         Check.end();
     }
 
-    private static void due(String marked) {
-        String text = marked.replace("^", "");
-        PascalMachine machine = Check.holding(text);
-        Check.isThrown(marked, IllegalArgumentException.class, () -> machine.compile());
-        Check.equal("fault of " + marked, machine.fault(), marked.indexOf('^'));
+    private static void aVariableBeginsAnAssignmentAlone() {
+        String[] texts = {
+            "var a; proc p; begin end; begin ^a ",
+            "var a; proc p; begin end; begin if 1=1 then ^a ",
+            "proc p(a); begin ^a ",
+            "proc p(@a); begin ^a ",
+            "proc p(@a); proc q; begin ^a ",
+        };
+        for (String text : texts) {
+            for (String behind : TOKENS) {
+                if (!behind.equals(":=")) {
+                    Due.fault(text + behind);
+                    Due.fault(text + behind + " 1 end.");
+                }
+            }
+            for (String behind : NO_TOKENS) {
+                Due.fault(text + behind);
+            }
+            Due.fault(text.replace("^", "") + ":= ^end");
+        }
+    }
+
+    private static void aProcedureBeginsACallAlone() {
+        String text = "var a; proc p; begin end; begin p ";
+        for (String behind : TOKENS) {
+            if (behind.equals(":=")) {
+                Due.fault("var a; proc p; begin end; begin ^p :=");
+                Due.fault("var a; proc p(x); begin end; begin ^p := 1 end.");
+                Due.fault("var a; proc p; begin ^p := 1 end; begin end.");
+            } else if (behind.equals("(") || behind.equals(";") || behind.equals("end")) {
+                Due.fault(text + behind + " ^) end.");
+            } else {
+                Due.fault(text + "^" + behind + " end.");
+            }
+        }
+        Due.fault(text + "^?");
+        Due.fault("var a; proc p; begin end; begin p^  ");
+        Due.sound(1, "proc p; begin end; begin if 1=1 then p else p end.");
+    }
+
+    private static void aCallHasAsManyArgumentsAsParameters() {
+        String[] parameters = {"", "(x)", "(x,y)", "(x,y,z)"};
+        String[] arguments = {"", "(1)", "(1,2)", "(1,2,3)", "(1,2,3,4)", "(1,2,3,4,5)"};
+        for (int known = 0; known < parameters.length; known++) {
+            for (int given = 0; given < arguments.length; given++) {
+                String outside = "proc p" + parameters[known] + "; begin end; begin ^p" + arguments[given] + " end.";
+                String inside = "proc p" + parameters[known] + "; begin ^p" + arguments[given] + " end; begin end.";
+                if (known == given) {
+                    Due.sound(known + 1, outside.replace("^", ""));
+                    Due.sound(known + 1, inside.replace("^", ""));
+                } else {
+                    Due.fault(outside);
+                    Due.fault(inside);
+                    Due.fault(outside.replace(" end.", "") + " ?");
+                    Due.fault(outside.replace(" end.", ""));
+                }
+            }
+        }
+        Due.fault("proc p; begin end; begin p(^) end.");
+        Due.fault("proc p(@x); begin end; begin ^p end.");
+        Due.fault("var a; proc p(@x); begin end; begin ^p(a,2) end.");
+        Due.fault("var a; proc p(@x,y); begin end; begin ^p(a) end.");
+        Due.fault("var a; proc p(@x,@y,@z); begin end; begin ^p(a,a,a,1) end.");
+        Due.fault("proc p(x); begin end; proc q(x,y); begin end; begin q(1,2); ^p(1,2) end.");
+    }
+
+    private static void anArgumentByReferenceIsJustAName() {
+        String[] parameters = {"(@x,y,z)", "(x,@y,z)", "(x,y,@z)"};
+        String[] calls = {"p(_,a,a)", "p(a,_,a)", "p(a,a,_)"};
+        String[] wrong = {"1", "-a", "-1", "(a)", "((a))", "(1)", "a+1", "a-a", "a*1", "a/a", "a%2", "1+a", "(a)+1", "a+(1)"};
+        for (int at = 0; at < calls.length; at++) {
+            for (int by = 0; by < parameters.length; by++) {
+                String text = "var a; proc p" + parameters[by] + "; begin end; begin " + calls[at] + " end.";
+                Due.sound(5, text.replace("_", "a"));
+                for (String argument : wrong) {
+                    if (at == by) {
+                        Due.fault(text.replace("_", "^" + argument));
+                        Due.fault(text.replaceAll("_.*", "^" + argument));
+                    } else {
+                        Due.sound(5, text.replace("_", argument));
+                    }
+                }
+            }
+        }
+        Due.fault("var a; proc p(@x); begin end; begin p(a ^a) end.");
+        Due.fault("var a; proc p(@x); begin end; begin p(^1 2) end.");
+        Due.fault("proc p(@x); begin end; begin p(^p) end.");
+        Due.sound(5, "var a; proc p(@x); proc q(y); begin p(a); p(x); p(y) end; begin q(1) end; begin p(a) end.");
+    }
+
+    private static void placesAreFrom0To300() {
+        Due.faultAt(0, "?");
+        Due.faultAt(0, "?" + " ".repeat(299));
+        Due.faultAt(299, "begin end." + " ".repeat(289) + "x");
+        Due.faultAt(299, " ".repeat(299) + "?");
+        Due.faultAt(300, " ".repeat(295) + "begin");
+        Due.faultAt(300, " ".repeat(291) + "begin end");
+        Due.faultAt(299, " ".repeat(290) + "begin end ");
+        Due.faultAt(293, " ".repeat(293) + "abcdefg");
+        Due.faultAt(290, " ".repeat(290) + "1234567890");
+        Due.sound(0, " ".repeat(290) + "begin end.");
     }
 
     private static void isOfTheLastCompile() {
@@ -227,14 +267,33 @@ public final class FaultTest {
         Check.isThrown("compile", IllegalArgumentException.class, () -> machine.compile());
         Check.answers("after a fault", 12, () -> machine.fault());
         Check.answers("asked again", 12, () -> machine.fault());
+        Check.isThrown("compile again", IllegalArgumentException.class, () -> machine.compile());
+        Check.answers("after the same fault", 12, () -> machine.fault());
         Check.replace(machine, "begin end.");
         Check.answers("with another text", 12, () -> machine.fault());
-        machine.compile();
+        Check.answers("compile of another text", 0, () -> machine.compile());
         Check.answers("after none", -1, () -> machine.fault());
         machine.cut(1);
+        Check.answers("with less text", -1, () -> machine.fault());
         Check.isThrown("compile of less", IllegalArgumentException.class, () -> machine.compile());
         Check.answers("after another", 9, () -> machine.fault());
-        machine.run();
-        Check.answers("after a run", 9, () -> machine.fault());
+        machine.append('.', 1);
+        Check.answers("compile of more", 0, () -> machine.compile());
+        Check.answers("after none again", -1, () -> machine.fault());
+    }
+
+    private static void isLeftAloneByOtherCalls() {
+        PascalMachine machine = Check.compiled("begin write(1); write(1/0) end.");
+        Check.isThrown("failing run", ArithmeticException.class, () -> machine.run());
+        Check.answers("after a failing run", -1, () -> machine.fault());
+        machine.cut(1);
+        Check.isThrown("compile of less", IllegalArgumentException.class, () -> machine.compile());
+        Check.answers("after the fault", 30, () -> machine.fault());
+        Check.isThrown("failing run again", ArithmeticException.class, () -> machine.run());
+        Check.answers("after a failing run again", 30, () -> machine.fault());
+        machine.output(0);
+        machine.count(2);
+        machine.append('?', 1);
+        Check.answers("after the other calls", 30, () -> machine.fault());
     }
 }
