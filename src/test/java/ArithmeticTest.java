@@ -16,7 +16,7 @@ public final class ArithmeticTest {
         Check.end();
     }
 
-    /** An expression for the value, of which the tokens' limits let no number stand for itself above 999999999. */
+    /** An expression for the value: a number of ten digits is no token, so it is made of two numbers. */
     private static String expression(int value) {
         int thousands = value / 1000;
         int rest = value % 1000;
@@ -93,7 +93,7 @@ public final class ArithmeticTest {
         Due.values("begin write(0/5); write(0%5); write(0/(-1)) end.", 0, 0, 0);
         Due.values("begin if 1=2 then write(1/0) else write(2); if 1=1 then else write(1%0) end.", 2);
         Due.values("proc p; begin write(1/0) end; begin while 1=2 do p; write(3) end.", 3);
-        // An assignment that fails leaves its variable, but no later run shows it.
+        // Whatever a failed run has left in its variables, the next one begins with 0.
         PascalMachine machine = Check.compiled("var a; begin a:=a+3; write(a); a:=a/(3-a) end.");
         for (int i = 0; i < 3; i++) {
             Check.isThrown("failing run " + i, ArithmeticException.class, () -> machine.run());

@@ -4,7 +4,6 @@ import java.util.NoSuchElementException;
 public final class CompileTest {
     public static void main(String[] args) {
         answersHowManyNames();
-        takesWhatTheGrammarTells();
         aFaultLeavesNoProgramWhereNoneWas();
         aFaultLeavesTheProgram();
         aFaultLeavesTheText();
@@ -24,26 +23,6 @@ public final class CompileTest {
         Due.sound(18, "var a,b,c,d,e,f; proc p(g,@h,i); var j,k,l; begin end; proc q;begin end;proc r;begin end;"
             + "proc s;begin end;proc t;begin end;proc u;begin end;begin end.");
         Due.sound(7, "var a; proc p(a); var b; proc q; begin end; begin end; proc q; var p; begin end; begin end.");
-    }
-
-    private static void takesWhatTheGrammarTells() {
-        Due.sound(0, "  begin   end  .  ");
-        Due.sound(0, "begin;;;end.");
-        Due.sound(0, "begin begin end; begin ; end end.");
-        Due.sound(0, "begin if 1=1 then end.");
-        Due.sound(0, "begin if 1<1 then else end.");
-        Due.sound(0, "begin if 1>1 then if 1=2 then else else end.");
-        Due.sound(0, "begin while 1=0 do end.");
-        Due.sound(0, "begin write(-1+2-3*4/5%6) end.");
-        Due.sound(0, "begin write(-(-(-1))) end.");
-        Due.sound(0, "begin write(1)end.");
-        Due.sound(1, "var a;begin a:=1;if a=1then write(2)else a:=3end.");
-        Due.sound(1, "var end1; begin end1:=1 end.");
-        Due.sound(2, "proc p(p); begin p:=1 end; begin p(1) end.");
-        Due.sound(3, "var a; proc p(a); begin a:=1 end; begin p(a) end.");
-        Due.sound(2, "proc p; begin p end; proc q; begin p; q end; begin q; p end.");
-        Due.sound(3, "proc p; var p; begin p:=1 end; proc q; begin p end; begin p; q end.");
-        Due.sound(5, "var a; proc p(@x,y); begin end; proc q; begin p(a,a+1) end; begin q; p(a,(a)) end.");
     }
 
     private static void aFaultLeavesNoProgramWhereNoneWas() {

@@ -2,6 +2,14 @@ import java.util.NoSuchElementException;
 
 /** What is due of a text that is put into a new machine, compiled and run. */
 final class Due {
+    /** A token of each kind; of the names, the tests declare what they need. */
+    static final String[] TOKENS = {
+        "a", "p", "b", "1", ":=", ";", ",", "(", ")", ".", "=", "<", ">", "+", "-", "*", "/", "%", "@",
+        "var", "proc", "begin", "end", "if", "then", "else", "while", "do", "write"};
+
+    /** What is no token, for each of the terms' reasons. */
+    static final String[] NO_TOKENS = {"?", ":", "abcdefg", "1234567890", "A", "!"};
+
     private Due() {
     }
 

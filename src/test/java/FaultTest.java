@@ -1,117 +1,20 @@
-/** Promise 5: fault, and the grammar that tells where it is. In a text here, ^ stands where the fault is due. */
+/** Promise 5: fault. In a text here, ^ stands where it is due. */
 public final class FaultTest {
-    private static final String[] GRAMMAR = {
-        "^end.",
-        "^; begin end.",
-        "var ^; begin end.",
-        "var ^begin end.",
-        "var ^1; begin end.",
-        "var a ^b; begin end.",
-        "var a,^; begin end.",
-        "var a ^begin end.",
-        "var a; ^var b; begin end.",
-        "proc p; begin end; ^var b; begin end.",
-        "proc ^; begin end; begin end.",
-        "proc ^begin",
-        "proc p ^begin end; begin end.",
-        "proc p(^); begin end; begin end.",
-        "proc p(x^; begin end; begin end.",
-        "proc p(x,^); begin end; begin end.",
-        "proc p(@^@x); begin end; begin end.",
-        "proc p(@^); begin end; begin end.",
-        "proc p; begin end ^begin end.",
-        "proc p; begin end^. begin end.",
-        "proc p; ^; begin end.",
-        "begin end ^; .",
-        "begin end.^.",
-        "begin end. ^begin",
-        "begin ^1 end.",
-        "begin ^( end.",
-        "begin ^else end.",
-        "begin ^:= end.",
-        "begin ^var a; end.",
-        "begin ^proc p; begin end; end.",
-        "begin write ^1 end.",
-        "begin write(^) end.",
-        "begin write(1^; end.",
-        "begin write(1^,2) end.",
-        "begin write(-^-1) end.",
-        "begin write(1+^-1) end.",
-        "begin write(^+1) end.",
-        "begin write(1*^) end.",
-        "begin write(1 ^=1) end.",
-        "begin write((1^; end.",
-        "begin write((^)) end.",
-        "begin write(1) ^write(2) end.",
-        "begin if 1 ^then end.",
-        "begin if 1^:=1 then end.",
-        "begin if 1=1 ^do end.",
-        "begin if 1=1^=1 then end.",
-        "begin if ^then end.",
-        "begin if 1<^then end.",
-        "begin if 1=1 then; ^else end.",
-        "begin if 1=1 then else ^else end.",
-        "begin while 1=1 ^then end.",
-        "begin while 1>2 do ^else end.",
-        "begin begin end ^.",
-        "begin end ^end.",
-        "var a; begin a:= ^end.",
-        "var a; begin a:=^; end.",
-        "var a; begin a:=1 ^2 end.",
-        "var a; begin a:=1 ^:=2 end.",
-        "var a; begin a:=^@a end.",
-        "proc p; begin end; begin p(^) end.",
-        "proc p(x); begin end; begin p(1^; end.",
-        "proc p(x); begin end; begin p(1,^) end.",
-        "proc p(x); begin end; begin p(1) ^(2) end.",
-    };
-
+    /** The fault is a token that lacks: it is behind the last one, and not behind the blanks. */
     private static final String[] LACKING = {
         "^",
-        "^   ",
         "begin^",
-        "begin^   ",
-        "begin end^",
-        "begin end^  ",
+        "begin^ ",
         "  begin  end^  ",
-        "var^",
-        "var a^ ",
-        "var a;^",
-        "proc p(@^ ",
-        "proc p; begin end^",
-        "begin write^",
-        "begin write(1^ ",
-        "begin if 1=1^",
-        "begin if 1=1 then^",
+        "begin write(1^  ",
+        "begin if 1=1 then^    ",
         "var a; begin a:=^ ",
-        "var a,^",
-        "proc^ ",
-        "proc p^ ",
-        "proc p(^",
-        "proc p(x^ ",
-        "proc p(x)^ ",
-        "proc p;^ ",
-        "proc p; begin end;^ ",
-        "begin;^ ",
-        "begin begin end^ ",
-        "begin write(^ ",
-        "begin write(1)^ ",
-        "begin write(-^ ",
-        "begin write(1+^ ",
-        "begin write(1*^ ",
-        "begin write((1)^ ",
-        "begin if^ ",
-        "begin if 1^ ",
-        "begin if 1=^ ",
-        "begin if 1=1 then else^ ",
-        "begin while 1=1 do^ ",
-        "proc p; begin end; begin p^ ",
-        "proc p; begin end; begin p(^ ",
-        "proc p(x); begin end; begin p(1^ ",
-        "proc p(x); begin end; begin p(1)^ ",
-        "proc p(x,y); begin end; begin p(1,^ ",
+        "var abcdef^ ",
+        "begin write(123456789^  ",
+        "proc p; begin end^",
     };
 
+    /** Of two faults, it is the one that is come to first. */
     private static final String[] FIRST_OF_TWO = {
         "begin ^1 ? end.",
         "begin ^x abcdefg",
@@ -134,16 +37,8 @@ public final class FaultTest {
         "var a; proc p(x,@y); begin end; begin p(^b,1) end.",
     };
 
-    /** A token of each kind, in its order of the terms. */
-    private static final String[] TOKENS = {
-        "a", "p", "b", "1", ":=", ";", ",", "(", ")", ".", "=", "<", ">", "+", "-", "*", "/", "%", "@",
-        "var", "proc", "begin", "end", "if", "then", "else", "while", "do", "write"};
-
-    /** What is no token, or is not there. */
-    private static final String[] NO_TOKENS = {"", "  ", "?", ":", "abcdefg", "1234567890", "A"};
-
     public static void main(String[] args) {
-        for (String[] texts : new String[][] {GRAMMAR, LACKING, FIRST_OF_TWO}) {
+        for (String[] texts : new String[][] {LACKING, FIRST_OF_TWO}) {
             for (String text : texts) {
                 Due.fault(text);
             }
@@ -167,22 +62,24 @@ public final class FaultTest {
             "proc p(@a); proc q; begin ^a ",
         };
         for (String text : texts) {
-            for (String behind : TOKENS) {
+            for (String behind : Due.TOKENS) {
                 if (!behind.equals(":=")) {
                     Due.fault(text + behind);
                     Due.fault(text + behind + " 1 end.");
                 }
             }
-            for (String behind : NO_TOKENS) {
+            for (String behind : Due.NO_TOKENS) {
                 Due.fault(text + behind);
             }
+            Due.fault(text);
+            Due.fault(text.trim());
             Due.fault(text.replace("^", "") + ":= ^end");
         }
     }
 
     private static void aProcedureBeginsACallAlone() {
         String text = "var a; proc p; begin end; begin p ";
-        for (String behind : TOKENS) {
+        for (String behind : Due.TOKENS) {
             if (behind.equals(":=")) {
                 Due.fault("var a; proc p; begin end; begin ^p :=");
                 Due.fault("var a; proc p(x); begin end; begin ^p := 1 end.");
@@ -211,8 +108,11 @@ public final class FaultTest {
                 } else {
                     Due.fault(outside);
                     Due.fault(inside);
-                    Due.fault(outside.replace(" end.", "") + " ?");
                     Due.fault(outside.replace(" end.", ""));
+                    if (given > 0) {
+                        Due.fault(outside.replace(" end.", " ?"));
+                        Due.fault(outside.replace(" end.", " 1"));
+                    }
                 }
             }
         }

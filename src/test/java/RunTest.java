@@ -8,6 +8,7 @@ public final class RunTest {
         runsTheProgramAndNotTheText();
         leavesTheTextAndTheFault();
         statements();
+        theLongestProgramsRun();
         runsAreAlike();
         aFailureLeavesTheProgram();
         failuresLeaveNothingBehind();
@@ -68,11 +69,23 @@ public final class RunTest {
         Due.values("begin if 1=2 then begin if 1=1 then write(1) end else write(2) end.", 2);
         Due.values("begin if 1=2 then begin write(1); write(2) end; write(3) end.", 3);
         Due.values("begin if 1=1 then else write(1); if 1=2 then else write(2) end.", 2);
+        Due.values("begin if 1=2 then while 1=1 do if 1=1 then write(1) else write(2) else write(3) end.", 3);
+        Due.values("begin if 1=1 then if 1=1 then if 1=2 then write(1) else write(2) else write(3) else write(4) end.", 2);
+        Due.values("begin if 1=2 then if 1=1 then if 1=2 then write(1) else write(2) else write(3) else write(4) end.", 4);
+        Due.values("begin if 1=2 then; write(1); if 1=1 then else; write(2); while 1=2 do; write(3) end.", 1, 2, 3);
         Due.values("var i; begin while i<3 do begin i:=i+1; write(i) end; write(9) end.", 1, 2, 3, 9);
         Due.values("var i,j; begin while i<2 do begin j:=0; while j<2 do begin write(10*i+j); j:=j+1 end; i:=i+1 end end.",
             0, 1, 10, 11);
         Due.values("begin while 1=2 do write(1) end.");
         Due.values("var a; begin if -a<1 then write(-5) end.", -5);
+    }
+
+    private static void theLongestProgramsRun() {
+        String whiles = "while 1=0 do ".repeat(8) + ";";
+        Due.values("proc p;begin end;begin " + whiles + whiles + "p;".repeat(27) + "write(7)end.", 7);
+        Due.values("var a;begin " + "a:=a+1;".repeat(23) + "write(a)end.", 23);
+        Due.values("begin write(" + "1+".repeat(71) + "1)end.", 72);
+        Due.values("begin write(" + "2*".repeat(30) + "1)end.", 1073741824);
     }
 
     private static void runsAreAlike() {

@@ -214,6 +214,9 @@ public final class TokenTest {
         Due.fault("begin " + ";".repeat(147) + "end. ^begin");
         Due.fault("begin " + ";".repeat(149) + "^");
         Due.fault("^" + ";".repeat(200));
+        // The arguments have not all been read where the bracket behind them is the 151st.
+        Due.fault("proc p;begin end;begin " + ";".repeat(140) + "p(1^)");
+        Due.fault("proc p;begin end;begin " + ";".repeat(139) + "^p(1)");
         Due.fault("begin " + ";".repeat(40) + "^)" + ";".repeat(200));
     }
 }
