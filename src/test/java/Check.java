@@ -16,6 +16,12 @@ final class Check {
         }
     }
 
+    static void isTrue(String what, boolean holds) {
+        if (!holds) {
+            report(what, "no", "yes");
+        }
+    }
+
     static void answers(String what, long due, Call call) {
         try {
             equal(what, call.answer(), due);
